@@ -39,9 +39,11 @@ public final class LightHours {
     private House kept;
 
     public LightHours() {
-        house = new House();
-        ledger = new Ledger(house);
-        hanging = new Hanging(house, ledger);
+        House empty = new House();
+        Ledger spans = new Ledger(empty);
+        house = empty;
+        ledger = spans;
+        hanging = new Hanging(empty, spans);
         kept = null;
     }
 

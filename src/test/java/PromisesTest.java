@@ -45,10 +45,12 @@ public final class PromisesTest {
         hungWithSisters();
         hungWithLight();
         hungFirstAmongEquals();
+        hungAnewAfterEachChange();
         worth();
         spares();
         hang();
         many();
+        manyOfFullHouse();
         keep();
         back();
         backOfEverything();
@@ -706,9 +708,12 @@ public final class PromisesTest {
         x.wall(0, 6, 1);
         due("hung(1) in the year behind", x.hung(1), 1);
         due("hung(0) in the year ahead", x.hung(0), 0);
+        x.show(1, 0, 4);
+        due("hung(0) with the sister shown a year ahead", x.hung(0), 0);
+        x.cancel(0);
         x.show(1, 0, 5);
         due("hung(0) with the sister shown", x.hung(0), NONE);
-        x.cancel(0);
+        x.cancel(1);
         due("hung(0) with the show cancelled", x.hung(0), 0);
         x.lend(1, 5, 1);
         due("hung(0) with the sister lent", x.hung(0), 0);
@@ -781,6 +786,46 @@ public final class PromisesTest {
         z.wall(0, 0, 1);
         due("hung(0) a greater sheet for more worth", z.hung(0), 1);
         due("hung(1)", z.hung(1), 0);
+    }
+
+    /** Each change comes right behind an answer, so that an answer that was only remembered would show. */
+    private static void hungAnewAfterEachChange() {
+        LightHours x = new LightHours();
+        due("worth() of nothing", x.worth(), 0);
+        x.room(50);
+        due("worth() with a room", x.worth(), 0);
+        x.wall(0, 4, 0);
+        due("worth() with a wall", x.worth(), 0);
+        x.sheet(100, 1, 6, 0);
+        due("worth() with a sheet", x.worth(), 6);
+        x.lend(0, 9, 51);
+        due("worth() with a loan", x.worth(), 0);
+        x.reading(0, 4, 40);
+        due("worth() with a reading", x.worth(), 6);
+        x.past(0, 0, 40);
+        due("worth() with a past", x.worth(), 0);
+        x.thread(0, 0, 0);
+        due("worth() with a thread that tells of a lesser past", x.worth(), 6);
+        x.cut();
+        due("worth() with the thread cut", x.worth(), 0);
+        x.cancel(0);
+        due("worth() with the loan cancelled", x.worth(), 6);
+        x.sheet(100, 1, 7, 0);
+        due("hung(0) with a better sheet", x.hung(0), 1);
+        x.wall(0, 4, 0);
+        due("worth() with another wall", x.worth(), 13);
+        x.keep();
+        due("worth() kept", x.worth(), 13);
+        x.sisters(0, 1);
+        due("worth() with sisters", x.worth(), 7);
+        x.strip();
+        due("hung(0) with a wall stripped", x.hung(0), 1);
+        x.show(1, 0, 4);
+        due("hung(0) with a show", x.hung(0), NONE);
+        x.back();
+        due("worth() when back", x.worth(), 13);
+        x.hang();
+        due("worth() when it is booked", x.worth(), 0);
     }
 
     private static void worth() {
@@ -908,6 +953,45 @@ public final class PromisesTest {
         }
     }
 
+    private static void manyOfFullHouse() {
+        LightHours x = new LightHours();
+        for (int room = 0; room < 4; room++) {
+            x.room(200);
+            for (int year = 0; year <= 9; year++) {
+                x.reading(room, year, 0);
+            }
+        }
+        for (int sheet = 0; sheet < 8; sheet++) {
+            x.sheet(1, 15, 9, 0);
+            x.past(sheet, 2, 2);
+            x.thread(sheet, 0, 7);
+        }
+        for (int thread = 8; thread < 12; thread++) {
+            x.thread(0, 0, 7);
+        }
+        for (int booking = 0; booking < 30; booking++) {
+            due("show", x.show(booking % 8, booking % 4, booking / 8), booking);
+            x.cancel(booking);
+        }
+        for (int wall = 0; wall < 5; wall++) {
+            x.wall(3, 9, 3);
+        }
+        int[] counts = {4, 8, 30, 30, 12, 5, 8, 8, 40};
+        for (int what = 0; what <= 8; what++) {
+            due("many(" + what + ") of a full house", x.many(what), counts[what]);
+        }
+        x.keep();
+        for (int sheet = 0; sheet < 8; sheet++) {
+            x.past(sheet, 0, 0);
+        }
+        due("worth() of a full house", x.worth(), 45);
+        due("spares(4)", x.spares(4), 1);
+        due("hang() of a full house", x.hang(), FULL);
+        x.back();
+        due("worth() of a full house that is spent", x.worth(), 0);
+        due("hang() of nothing", x.hang(), 0);
+    }
+
     private static void keep() {
         promise = 27;
         LightHours x = house();
@@ -978,6 +1062,7 @@ public final class PromisesTest {
         x.lend(0, 3, 45);
         x.cut();
         x.thread(1, 5, 5);
+        x.thread(0, 3, 4);
         x.strip();
         x.strip();
         x.wall(0, 0, 0);
@@ -989,6 +1074,57 @@ public final class PromisesTest {
         x.hang();
         x.back();
         compare(before, allAnswers(x));
+        backOfThreads();
+        backOfWalls();
+    }
+
+    private static void backOfThreads() {
+        LightHours x = house();
+        x.past(0, 0, 500);
+        x.lend(0, 5, 100);
+        x.thread(0, 4, 2);
+        x.keep();
+        x.cut();
+        x.thread(0, 5, 4);
+        x.thread(0, 6, 4);
+        x.back();
+        due("many(4) when back", x.many(4), 1);
+        due("pastOf(0, false) when back", x.pastOf(0, false), 20);
+        x.cut();
+        x.thread(0, 6, 2);
+        due("of(0, 5) ahead of back", x.of(0, 5), 1);
+        x.back();
+        due("of(0, 5) when back", x.of(0, 5), 0);
+        x.cut();
+        x.thread(1, 4, 2);
+        x.back();
+        due("of(0, 7) when back", x.of(0, 7), 1);
+    }
+
+    private static void backOfWalls() {
+        LightHours x = new LightHours();
+        x.room(50);
+        x.room(60);
+        x.sheet(55, 1, 5, 0);
+        x.show(0, 0, 1);
+        x.reading(0, 1, 0);
+        x.wall(0, 0, 0);
+        x.keep();
+        x.strip();
+        x.wall(1, 0, 0);
+        due("hung(0) with another room", x.hung(0), NONE);
+        x.back();
+        due("hung(0) with the room back", x.hung(0), 0);
+        x.strip();
+        x.wall(0, 1, 0);
+        due("hung(0) with another year", x.hung(0), NONE);
+        x.back();
+        due("hung(0) with the year back", x.hung(0), 0);
+        x.strip();
+        x.wall(0, 0, 1);
+        due("hung(0) with another theme", x.hung(0), NONE);
+        x.back();
+        due("hung(0) with the theme back", x.hung(0), 0);
     }
 
     private static void compare(int[] before, int[] after) {
