@@ -44,7 +44,7 @@ final class Answers {
             case 0: rooms(x); break;
             case 1: sheets(x); break;
             case 2: spent(x); break;
-            case 3: bookings(x); walls(x, ""); break;
+            case 3: bookings(x); wallsFoundAnew(x); break;
             case 4: threadsTakenAway(x); break;
             case 5: wallsTakenAway(x); break;
             default: kept(x); break;
@@ -113,6 +113,14 @@ final class Answers {
         for (int sheet = 0; sheet < SHEETS; sheet++) {
             say("spares(" + sheet + ")" + when, x.spares(sheet));
         }
+    }
+
+    /** Once as THE HANG may be remembered, and once behind a change that leaves all as it is. */
+    private void wallsFoundAnew(LightHours x) {
+        walls(x, "");
+        say("keep()", x.keep());
+        say("back()", x.back());
+        walls(x, " behind keep() and back()");
     }
 
     private void threadsTakenAway(LightHours x) {

@@ -87,13 +87,16 @@ final class Houses {
         x.thread(0, 4, 6);
         x.thread(2, 9, 5);
         x.thread(7, 0, 1);
-        for (int thread = 4; thread < 12; thread++) {
+        for (int thread = 4; thread < 10; thread++) {
             x.thread(thread % 8, thread - 2, thread % 8);
         }
+        x.thread(3, 8, 3);
+        // The last THREAD and the last WALL can be told from others by the answers, so that one written over them shows.
+        x.thread(2, 4, 4);
         x.wall(0, 2, 0);
         x.wall(1, 2, 1);
-        x.wall(2, 2, 2);
-        x.wall(3, 2, 3);
-        x.wall(3, 2, 0);
+        x.wall(3, 1, 0);
+        x.wall(3, 1, 0);
+        x.wall(3, 1, 1);
     }
 }

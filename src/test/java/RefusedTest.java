@@ -64,9 +64,11 @@ public final class RefusedTest {
         refusals.add(new Refusal("lend(0, 9, 500)", x -> x.lend(0, 9, 500), Due.FULL));
         refusals.add(new Refusal("cancel(29)", x -> x.cancel(29), Due.TWICE));
         refusals.add(new Refusal("thread(5, 9, 7)", x -> x.thread(5, 9, 7), Due.FULL));
+        refusals.add(new Refusal("thread(2, 4, 3)", x -> x.thread(2, 4, 3), Due.FULL));
         refusals.add(new Refusal("wall(1, 9, 3)", x -> x.wall(1, 9, 3), Due.FULL));
+        refusals.add(new Refusal("wall(3, 1, 0)", x -> x.wall(3, 1, 0), Due.FULL));
         refusals.add(new Refusal("hung(5)", x -> x.hung(5), Due.NUMBER));
-        refusals.add(new Refusal("hung(4)", x -> x.hung(4), Due.NONE));
+        refusals.add(new Refusal("hung(3)", x -> x.hung(3), Due.NONE));
         refusals.add(new Refusal("hang()", x -> x.hang(), Due.FULL));
         changeNothing(Houses::full, refusals);
     }
@@ -270,7 +272,8 @@ public final class RefusedTest {
 
     @Sentence(in = "Promise 22", says = "NUMBER: there is none such; NONE: nothing.")
     private static void aWallThatIsNotThereIsNumberAndAnEmptyOneNone() {
-        Due.is("hung(4)", full().hung(4), Due.NONE);
+        Due.is("hung(3)", full().hung(3), Due.NONE);
+        Due.is("hung(4)", full().hung(4), 5);
         Due.is("hung(5)", full().hung(5), Due.NUMBER);
         Due.is("hung(NONE)", full().hung(Due.NONE), Due.NUMBER);
     }
