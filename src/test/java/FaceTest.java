@@ -10,6 +10,8 @@ import java.util.Arrays;
 import java.util.List;
 import java.util.Set;
 import java.util.TreeSet;
+import java.util.regex.Matcher;
+import java.util.regex.Pattern;
 
 /** The public face is the document's, no more and no less, and the source keeps what LANGUAGE.md says of words. */
 public final class FaceTest {
@@ -22,6 +24,9 @@ public final class FaceTest {
     private static final String[] CONSTANTS = {"NUMBER=-1", "FULL=-2", "TWICE=-3", "NONE=-4", "NOTHING=-1000000"};
     private static final String[] FORBIDDEN = {"throw", "try", "catch", "synchronized", "assert", "import", "package",
         "protected", "volatile", "native", "transient"};
+    /** All of the library that the source uses; LANGUAGE.md, rule 4, says what may be added here. */
+    private static final Set<String> LIBRARY = Set.of("Math.max", "Math.min", "Math.abs", "System.arraycopy");
+    private static final int MOST_PARAMETERS = 7;
 
     private static int wrong = 0;
 
@@ -39,6 +44,10 @@ public final class FaceTest {
         constants();
         constructors();
         nested();
+        bounds(LightHours.class);
+        for (Class<?> inside : LightHours.class.getDeclaredClasses()) {
+            bounds(inside);
+        }
         words();
         System.out.println(wrong == 0 ? "the face is the document's" : wrong + " faults in the face");
         if (wrong != 0) {
@@ -106,12 +115,27 @@ public final class FaceTest {
         }
     }
 
+    /** Rule 5: static fields are final; rule 11: a method takes at most seven parameters. */
+    private static void bounds(Class<?> c) {
+        for (Field f : c.getDeclaredFields()) {
+            boolean good = !Modifier.isStatic(f.getModifiers()) || Modifier.isFinal(f.getModifiers());
+            check(good, c.getName() + "." + f.getName() + " is static and not final");
+        }
+        for (Method m : c.getDeclaredMethods()) {
+            check(m.getParameterCount() <= MOST_PARAMETERS, c.getName() + "." + m.getName() + " takes too much");
+        }
+    }
+
     private static void words() throws IOException {
         String source = Files.readString(Path.of("src/main/java/LightHours.java"));
         String code = source.replaceAll("(?s)/\\*.*?\\*/", " ").replaceAll("//[^\n]*", " ");
         Set<String> words = new TreeSet<>(Arrays.asList(code.split("[^A-Za-z0-9_]+")));
         for (String word : FORBIDDEN) {
             check(!words.contains(word), "the source has the word " + word);
+        }
+        Matcher used = Pattern.compile("\\b[A-Z]\\w*\\.\\w+(?=\\()").matcher(code);
+        while (used.find()) {
+            check(LIBRARY.contains(used.group()), "the source uses " + used.group());
         }
         check(!code.contains("->"), "the source has an arrow");
         check(!code.contains("::"), "the source has a method reference");

@@ -17,6 +17,14 @@ public final class PlainModelTest {
     private static final int NONE = -4;
     private static final int NOTHING = -1000000;
     private static final int[] T = {0, 10, 20, 40, 80, 160, 320, 640, 100000};
+    private static final int STYLES = 5;
+    /** Runs of this style draw from all that may be, and from one beyond it. */
+    private static final int WIDE_STYLE = 4;
+    /** By call: the least and the greatest that each argument may be at all. */
+    private static final int[][] WIDE = {{1, 200}, {0, 3, 0, 9, -1, 200}, {0, 3, 0, 9}, {1, 2000, 1, 15, 1, 9, 0, 3},
+        {0, 7, 0, 7}, {0, 7, 0, 2000, 0, 2000}, {0, 7, 0, 7}, {0, 7, 0, 3, 0, 9}, {0, 7, 0, 9, 1, 500}, {0, 7, 1, 500},
+        {0, 29}, {0, 29, 0, 6}, {0, 7, 0, 9, 0, 7}, {}, {0, 7}, {0, 7, 0, 9}, {0, 7}, {0, 3, 0, 9, 0, 3}, {0, 7, 0, 9}, {},
+        {0, 4}, {}, {}, {0, 7}, {}, {}, {0, 8}};
 
     public static void main(String[] args) {
         int[] answered = new int[Model.CALL_NAMES.length];
@@ -45,7 +53,7 @@ public final class PlainModelTest {
         LightHours x = new LightHours();
         Model model = new Model();
         List<String> calls = new ArrayList<>();
-        int style = run % 4;
+        int style = run % STYLES;
         for (int at = 0; at < CALLS; at++) {
             int call = drawCall(random, style, at);
             int[] a = drawArguments(random, call, style);
@@ -84,7 +92,7 @@ public final class PlainModelTest {
     private static int[] drawArguments(Random random, int call, int style) {
         int[] a = new int[4];
         for (int i = 0; i < 4; i++) {
-            a[i] = drawArgument(random, call, i, style);
+            a[i] = style == WIDE_STYLE ? drawWide(random, call, i) : drawArgument(random, call, i, style);
         }
         if (random.nextInt(40) == 0) {
             int[] odd = {-2, -1, Integer.MIN_VALUE, Integer.MAX_VALUE, 10, 30, 31};
@@ -111,6 +119,19 @@ public final class PlainModelTest {
             case 17: return new int[] {random.nextInt(3), random.nextInt(style == 2 ? 3 : 6), random.nextInt(4), 0}[i];
             default: return new int[] {random.nextInt(9), random.nextInt(9), random.nextInt(10), 0}[i];
         }
+    }
+
+    private static int drawWide(Random random, int call, int i) {
+        if (2 * i >= WIDE[call].length) {
+            return 0;
+        }
+        int least = WIDE[call][2 * i];
+        int greatest = WIDE[call][2 * i + 1];
+        if (random.nextInt(30) == 0) {
+            return random.nextBoolean() ? least - 1 : greatest + 1;
+        }
+        // Lesser numbers come more often, or all is spent soon and nothing can hang.
+        return least + random.nextInt(greatest - least + 1) / (random.nextBoolean() ? 1 : 1 + random.nextInt(20));
     }
 
     private static int ask(LightHours x, int call, int[] a, boolean greatest) {
